@@ -538,17 +538,15 @@ public final class RekeyPeers {
                 return PASSED_OVER;
             }
             nextToAnswer++;
-            latestAnswer = answerTo(request);
+            if (request.kind == OPEN) {
+                latestAnswer = answerToOpen(request);
+            } else if (request.kind == RENEW) {
+                latestAnswer = answerToRenew(request);
+            } else {
+                latestAnswer = answerToDelete(request);
+            }
             outgoing.launch(latestAnswer);
             return ANSWERED;
-        }
-
-        private Answer answerTo(Request request) {
-            switch (request.kind) {
-                case OPEN: return answerToOpen(request);
-                case RENEW: return answerToRenew(request);
-                default: return answerToDelete(request);
-            }
         }
 
         private Answer answerToOpen(Request request) {
@@ -660,7 +658,7 @@ public final class RekeyPeers {
         }
 
         private void keep(Child child) {
-            if (!isFull()) {
+            if (offspring.size() < MOST_CHILDREN) {
                 offspring.add(child);
             }
         }

@@ -16,6 +16,7 @@ final class SetupTest {
         noncesFollowTheSeed();
         seedsAreRefused();
         clearBringsAllBack();
+        clearTakesAwayWhatIsOnItsWay();
         Expect.end();
     }
 
@@ -197,6 +198,23 @@ final class SetupTest {
         Bench.open(x, 0);
         Bench.open(x, 1);
         Expect.sameText("as a new object", Bench.all(x), Bench.all(asNew()));
+    }
+
+    private static void clearTakesAwayWhatIsOnItsWay() {
+        RekeyPeers x = Bench.agreeing(2);
+        for (int peer = 0; peer < 2; peer++) {
+            x.wish(peer, OPEN, 0);
+            x.wish(peer, RekeyPeers.RENEW, 0);
+            x.wish(peer, RekeyPeers.DELETE, 1);
+        }
+        x.tick(5);
+        x.deliver(0, 0);
+        x.deliver(1, 0);
+        x.clear();
+        Expect.sameText("nothing is on its way", Bench.all(x), NEW);
+        x.wish(0, OPEN, 0);
+        x.deliver(1, 0);
+        Expect.sameText("the first request is answered anew", Bench.packet(x, 0, 0), "0 0 0 0 0 0 0");
     }
 
     private static RekeyPeers asNew() {
