@@ -50,7 +50,7 @@ final class Bench {
     static void killByTicks(RekeyPeers x, int peer) {
         x.wish(peer, RekeyPeers.OPEN, 0);
         x.tick(124);
-        while (x.flying(1 - peer) > 0) {
+        for (int flies = x.flying(1 - peer); flies > 0; flies--) {
             x.lose(1 - peer, 0);
         }
     }
