@@ -6,8 +6,9 @@ import java.util.Random;
  * the object like a new one.
  */
 final class AnyRunTest {
-    private static final int RUNS = 400;
-    private static final int CALLS = 500;
+    private static final int RUNS = 2000;
+    /** Few enough that all calls of an object, with those that look at it in the end, are promised. */
+    private static final int MOST_CALLS = 180;
     private static final int THROWN = Integer.MIN_VALUE;
 
     public static void main(String[] args) {
@@ -18,34 +19,39 @@ final class AnyRunTest {
     }
 
     private static void anyRun(int run) {
-        Random random = new Random(run);
-        RekeyPeers x = new RekeyPeers();
-        RekeyPeers twin = new RekeyPeers();
-        prepare(x, twin, run);
-        for (int i = 0; i < CALLS; i++) {
-            int[] call = anyCall(random, x);
-            int got = answer(x, call);
+        RekeyPeers x = prepared(run);
+        RekeyPeers twin = prepared(run);
+        int[][] calls = anyCalls(run);
+        for (int i = 0; i < calls.length; i++) {
+            int got = answer(x, calls[i]);
             if (got != THROWN) {
-                Expect.same("run " + run + ", call " + i + " at the twin", answer(twin, call), got);
+                Expect.same("run " + run + ", call " + i + " at the twin", answer(twin, calls[i]), got);
             }
-            limitsHold(run, x);
         }
+        limitsHold(run, x);
         Expect.sameText("run " + run, Bench.all(x), Bench.all(twin));
         x.clear();
         Expect.sameText("run " + run + " cleared", Bench.all(x), Bench.all(new RekeyPeers()));
     }
 
-    /** Half of the runs begin with suites, so that children come soon. */
-    private static void prepare(RekeyPeers x, RekeyPeers twin, int run) {
-        if (run % 2 == 0) {
-            for (int peer = 0; peer < 2; peer++) {
-                x.suite(peer, 1);
-                twin.suite(peer, 1);
-            }
+    /** A scout goes the same way, so that most calls name what is there. */
+    private static int[][] anyCalls(int run) {
+        Random random = new Random(run);
+        RekeyPeers scout = prepared(run);
+        int[][] calls = new int[1 + run % MOST_CALLS][];
+        for (int i = 0; i < calls.length; i++) {
+            calls[i] = anyCall(random, scout);
+            answer(scout, calls[i]);
         }
+        return calls;
     }
 
-    private static int[] anyCall(Random random, RekeyPeers x) {
+    /** Half of the runs begin with suites, so that children come soon. */
+    private static RekeyPeers prepared(int run) {
+        return run % 2 == 0 ? Bench.ready() : new RekeyPeers();
+    }
+
+    private static int[] anyCall(Random random, RekeyPeers scout) {
         int peer = random.nextInt(40) == 0 ? random.nextInt(5) - 2 : random.nextInt(2);
         int side = peer == 1 ? 1 : 0;
         int which = random.nextInt(100);
@@ -61,16 +67,16 @@ final class AnyRunTest {
         }
         if (which < 40) {
             int kind = random.nextInt(30) == 0 ? random.nextInt(7) - 2 : random.nextInt(3);
-            return new int[] {3, peer, kind, index(random, x.children(side))};
+            return new int[] {3, peer, kind, index(random, scout.children(side))};
         }
         if (which < 85) {
-            return new int[] {4, peer, index(random, x.flying(side)), 0};
+            return new int[] {4, peer, index(random, scout.flying(side)), 0};
         }
         if (which < 90) {
-            return new int[] {5, peer, index(random, x.flying(side)), 0};
+            return new int[] {5, peer, index(random, scout.flying(side)), 0};
         }
         if (which < 96) {
-            return new int[] {6, peer, index(random, x.flying(side)), 0};
+            return new int[] {6, peer, index(random, scout.flying(side)), 0};
         }
         return new int[] {7, random.nextInt(20) == 0 ? random.nextInt(1300) - 100 : random.nextInt(6), 0, 0};
     }

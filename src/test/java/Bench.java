@@ -42,16 +42,31 @@ final class Bench {
 
     /** Delivers, the oldest first, till nothing flies. */
     static void settle(RekeyPeers x) {
-        for (int i = 0; i < 1000 && x.flying(0) + x.flying(1) > 0; i++) {
-            x.deliver(x.flying(0) > 0 ? 0 : 1, 0);
+        for (int i = 0; i < 1000; i++) {
+            boolean toZero = x.flying(0) > 0;
+            if (!toZero && x.flying(1) == 0) {
+                return;
+            }
+            x.deliver(toZero ? 0 : 1, 0);
         }
     }
 
     static void killByTicks(RekeyPeers x, int peer) {
         x.wish(peer, RekeyPeers.OPEN, 0);
         x.tick(124);
-        for (int flies = x.flying(1 - peer); flies > 0; flies--) {
-            x.lose(1 - peer, 0);
+        loseAll(x, 1 - peer);
+    }
+
+    /** Till so many packets fly to this peer: the last one is doubled. */
+    static void fill(RekeyPeers x, int peer, int many) {
+        for (int flies = x.flying(peer); flies < many; flies++) {
+            x.twice(peer, flies - 1);
+        }
+    }
+
+    static void loseAll(RekeyPeers x, int peer) {
+        for (int flies = x.flying(peer); flies > 0; flies--) {
+            x.lose(peer, 0);
         }
     }
 
@@ -99,14 +114,54 @@ final class Bench {
         StringBuilder text = new StringBuilder();
         for (int peer = 0; peer < 2; peer++) {
             text.append("peer ").append(told(x, peer));
-            for (int k = 0; k < x.children(peer); k++) {
+            int children = x.children(peer);
+            for (int k = 0; k < children; k++) {
                 text.append(", child ").append(child(x, peer, k));
             }
-            for (int k = 0; k < x.flying(peer); k++) {
+            int flies = x.flying(peer);
+            for (int k = 0; k < flies; k++) {
                 text.append(", packet ").append(packet(x, peer, k));
             }
             text.append("; ");
         }
         return text.append("agreed ").append(x.agreed()).toString();
+    }
+
+    /** What comes of a few calls more: it shows what no call tells, suites, ranges, marks, nonces. */
+    static String future(RekeyPeers x) {
+        loseAll(x, 0);
+        loseAll(x, 1);
+        x.tick(4);
+        settle(x);
+        for (int peer = 0; peer < 2; peer++) {
+            if (x.told(peer, 5) == 0) {
+                openWithRoom(x, peer);
+            }
+        }
+        StringBuilder text = new StringBuilder(all(x));
+        for (int peer = 0; peer < 2; peer++) {
+            for (int suite = 1; suite <= 9; suite++) {
+                text.append(' ').append(suiteOrRefusal(x, peer, suite));
+            }
+        }
+        return text.toString();
+    }
+
+    private static void openWithRoom(RekeyPeers x, int peer) {
+        if (x.children(peer) == 16) {
+            x.wish(peer, RekeyPeers.DELETE, 0);
+        }
+        x.wish(peer, RekeyPeers.OPEN, 0);
+        settle(x);
+    }
+
+    private static String suiteOrRefusal(RekeyPeers x, int peer, int suite) {
+        try {
+            return String.valueOf(x.suite(peer, suite));
+        } catch (IllegalArgumentException there) {
+            return "there";
+        } catch (UnsupportedOperationException full) {
+            return "full";
+        }
     }
 }

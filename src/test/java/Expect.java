@@ -45,7 +45,7 @@ final class Expect {
         throwsJust(what, UnsupportedOperationException.class, call);
     }
 
-    private static void throwsJust(String what, Class<?> due, IntSupplier call) {
+    static void throwsJust(String what, Class<?> due, IntSupplier call) {
         looked++;
         try {
             report(what + ": answered " + call.getAsInt() + ", due is " + due.getSimpleName());
